@@ -1,0 +1,77 @@
+/** Steps that many tests share. */
+final class Books {
+    private Books() {
+    }
+
+    static void type(BookmarkManager book, String input) {
+        for (int index = 0; index < input.length(); index++) {
+            book.appendInput(input.charAt(index));
+        }
+    }
+
+    /** Types an input and executes it. */
+    static int run(BookmarkManager book, String input) {
+        type(book, input);
+        return book.execute();
+    }
+
+    /** A new book on which these commands have been executed, each one as a change of its own. */
+    static BookmarkManager with(String... inputs) {
+        BookmarkManager book = new BookmarkManager();
+        for (String input : inputs) {
+            run(book, input);
+        }
+        return book;
+    }
+
+    /** The output, read character by character. */
+    static String output(BookmarkManager book, int length) {
+        StringBuilder text = new StringBuilder();
+        for (int index = 0; index < length; index++) {
+            text.append(book.outputAt(index));
+        }
+        return text.toString();
+    }
+
+    static String chapterText(BookmarkManager book, int chapter) {
+        return output(book, book.writeChapter(chapter));
+    }
+
+    static String seatText(BookmarkManager book) {
+        return output(book, book.writeSeats());
+    }
+
+    /** The reason, the detail and the cause of the latest rejection, with "-" for what there is none. */
+    static String rejection(BookmarkManager book) {
+        return part(book::rejectionReason) + " " + part(book::rejectionDetail) + " " + part(book::causeReason);
+    }
+
+    private static String part(Check.Call call) {
+        try {
+            return String.valueOf(call.answer());
+        } catch (java.util.NoSuchElementException none) {
+            return "-";
+        }
+    }
+
+    /** All that undo and the snapshot cover, as far as it can be asked for, in one text. */
+    static String state(BookmarkManager book) {
+        StringBuilder text = new StringBuilder();
+        int marks = book.markCount();
+        for (int position = 0; position < marks; position++) {
+            int mark = book.markByPage(position);
+            boolean ribbon = book.isRibbon(mark);
+            text.append(mark).append(ribbon ? 'r' : 'e').append(book.pageOf(mark));
+            text.append('*').append(book.weightOf(mark)).append('w').append(book.wearOf(mark));
+            text.append(ribbon ? "s" + book.seatOf(mark) : "").append(' ');
+        }
+        text.append('|');
+        int chapters = book.chapterCount();
+        for (int chapter = 0; chapter < chapters; chapter++) {
+            text.append(' ').append(book.firstPage(chapter));
+        }
+        text.append(" | reader ").append(book.currentPage()).append(" votes ").append(book.votesHeld());
+        text.append(' ').append(book.motionsCarried()).append(" fallen ").append(book.fallenEars());
+        return text.toString();
+    }
+}
