@@ -12,6 +12,7 @@ public final class ChaptersTest {
         startChapterWrongly();
         carriedVote();
         voteOnTheFirst();
+        voteWithAllMarks();
         voteNotCarried();
         voteWrongly();
         bounds();
@@ -82,6 +83,27 @@ public final class ChaptersTest {
         CHECK.due("0 20 30", "it joins the next chapter", () -> starts(book));
         CHECK.due("3r0*3w0s1 2e10*1w0 0r25*9w0s0 | 0 20 30 | reader 0 votes 1 1 fallen 0",
             "the dog ear of the next chapter stays", () -> Books.state(book));
+    }
+
+    private static void voteWithAllMarks() {
+        BookmarkManager book = Books.with("R1:9;R2:9;R3:9", "E40:1;E41:1;E42:1;E43:1;E44:1;E45:1;E46:1;E47:1", "C40;E59:1");
+        CHECK.due(27, "weightInFavour(1)", () -> book.weightInFavour(1));
+        CHECK.due(9, "weightAgainst(1)", () -> book.weightAgainst(1));
+        CHECK.due(9, "weightAgainstByTotal(1)", () -> book.weightAgainstByTotal(1));
+        CHECK.due(9, "chapterWeight(1)", () -> book.chapterWeight(1));
+        CHECK.due(9, "heldPages(1)", () -> book.heldPages(1));
+        CHECK.due(9, "heldPagesByMarks(1)", () -> book.heldPagesByMarks(1));
+        CHECK.due(true, "voteToDissolve(1)", () -> book.voteToDissolve(1));
+        CHECK.due("0r1*9w0s0 1r2*9w0s1 2r3*9w0s2 | 0 | reader 0 votes 1 1 fallen 0", "all dog ears are gone",
+            () -> Books.state(book));
+        CHECK.due(27, "chapterWeight(0)", () -> book.chapterWeight(0));
+        CHECK.due(27, "weightAgainst(0)", () -> book.weightAgainst(0));
+        CHECK.due(3, "heldPagesByMarks(0)", () -> book.heldPagesByMarks(0));
+        BookmarkManager full = Books.with("C1;C2;C3;C4;C5;C6;C7", "R59:1");
+        CHECK.due(true, "voteToDissolve(3) of eight chapters", () -> full.voteToDissolve(3));
+        CHECK.due("0 1 2 4 5 6 7", "the starts", () -> starts(full));
+        CHECK.due(true, "voteToDissolve(0) of seven chapters", () -> full.voteToDissolve(0));
+        CHECK.due("0 2 4 5 6 7", "the starts", () -> starts(full));
     }
 
     private static void voteNotCarried() {

@@ -21,6 +21,7 @@ public final class CommandsTest {
         firstFailureCounts();
         syntaxErrors();
         latestSyntaxError();
+        shorterInput();
         fullInput();
         CHECK.end();
     }
@@ -170,6 +171,25 @@ public final class CommandsTest {
         CHECK.due(2, "a rejection leaves the syntax error", book::syntaxErrorOffset);
         CHECK.thrown(SYNTAX, "execute() of Q", () -> Books.run(book, "Q"));
         CHECK.due(0, "the latest syntax error counts", book::syntaxErrorOffset);
+    }
+
+    /** Nothing of an earlier input is read again. */
+    private static void shorterInput() {
+        BookmarkManager book = new BookmarkManager();
+        String[] inputs = {"R50:1;X0;R1:1", "R50:1", "R50:", "R50", "R5", "R"};
+        for (int index = 0; index < inputs.length; index++) {
+            String input = inputs[index];
+            if (index < 2) {
+                CHECK.due(index == 0 ? 3 : 1, "execute() of " + input, () -> Books.run(book, input));
+            } else {
+                CHECK.thrown(SYNTAX, "execute() of " + input, () -> Books.run(book, input));
+                CHECK.due(input.length(), "syntaxErrorOffset() of " + input, book::syntaxErrorOffset);
+            }
+        }
+        CHECK.thrown(SYNTAX, "execute() of the empty input", book::execute);
+        CHECK.due(0, "syntaxErrorOffset() of the empty input", book::syntaxErrorOffset);
+        CHECK.due(1, "execute() of X1", () -> Books.run(book, "X1"));
+        CHECK.due(1, "one mark is left", book::markCount);
     }
 
     /** Sixty characters: the input ends too early at its length, as any input does. */

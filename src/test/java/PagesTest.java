@@ -12,6 +12,8 @@ public final class PagesTest {
     public static void main(String[] args) {
         marksOnPages();
         neighbours();
+        twelveMarks();
+        afterARemoval();
         nearest();
         chapters();
         noSuchPages();
@@ -44,6 +46,33 @@ public final class PagesTest {
         CHECK.due(2, "previousMark(39)", () -> book.previousMark(39));
         CHECK.due(1, "previousMark(10)", () -> book.previousMark(10));
         CHECK.thrown(NONE, "previousMark(9)", () -> book.previousMark(9));
+    }
+
+    private static void twelveMarks() {
+        BookmarkManager book = Books.with("E0:1;E1:1;E2:1;E3:1;E4:1;E5:1;E6:1;E7:1;E8:1;E9:1", "E10:1;R11:1");
+        CHECK.due(11, "nextMark(11)", () -> book.nextMark(11));
+        CHECK.thrown(NONE, "nextMark(12)", () -> book.nextMark(12));
+        CHECK.due(11, "previousMark(59)", () -> book.previousMark(59));
+        CHECK.due(11, "nearestMark(59)", () -> book.nearestMark(59));
+        CHECK.thrown(NONE, "markOn(12)", () -> book.markOn(12));
+        CHECK.thrown(NONE, "ribbonIn(1)", () -> book.ribbonIn(1));
+        CHECK.thrown(NO_SUCH, "pageOf(12)", () -> book.pageOf(12));
+        CHECK.due(11, "markByWeight(0)", () -> book.markByWeight(0));
+        CHECK.due(10, "markByWeight(11)", () -> book.markByWeight(11));
+    }
+
+    /** What is removed is found by no call. */
+    private static void afterARemoval() {
+        BookmarkManager book = Books.with("R30:5;E40:9;R50:9", "X1;X2");
+        CHECK.thrown(NONE, "nextMark(31)", () -> book.nextMark(31));
+        CHECK.thrown(NONE, "markOn(50)", () -> book.markOn(50));
+        CHECK.due(false, "isHeld(40)", () -> book.isHeld(40));
+        CHECK.due(0, "nearestMark(50)", () -> book.nearestMark(50));
+        CHECK.due(0, "previousMark(59)", () -> book.previousMark(59));
+        CHECK.due(0, "markByWeight(0)", () -> book.markByWeight(0));
+        CHECK.thrown(NONE, "markByWeight(1)", () -> book.markByWeight(1));
+        CHECK.thrown(NONE, "ribbonIn(1)", () -> book.ribbonIn(1));
+        CHECK.thrown(NONE, "pagesToNextMark() behind it", () -> Books.run(book, "T20;T20") + book.pagesToNextMark());
     }
 
     /** Promise 17. */

@@ -14,6 +14,8 @@ public final class ReaderTest {
         turning();
         wearing();
         falling();
+        wearOfNewEars();
+        allEarsFall();
         bookEnds();
         countOutOfRange();
         pagesToNextMark();
@@ -59,6 +61,27 @@ public final class ReaderTest {
         Books.run(book, "B1");
         CHECK.due(1, "turnPages(20, true)", () -> book.turnPages(20, true));
         CHECK.due(4, "fallenEars()", book::fallenEars);
+    }
+
+    /** A new dog ear has no wear, whatever mark was there ahead of it. */
+    private static void wearOfNewEars() {
+        BookmarkManager book = Books.with("E1:1;E2:1", "T5;X0;X1");
+        CHECK.due(2, "addDogEar(9, 1)", () -> book.addDogEar(9, 1));
+        CHECK.due(0, "wearOf(2)", () -> book.wearOf(2));
+        CHECK.due(3, "addDogEar(1, 1)", () -> book.addDogEar(1, 1));
+        CHECK.due(0, "wearOf(3)", () -> book.wearOf(3));
+        Books.run(book, "T4;E10:5;X2");
+        CHECK.due(0, "wearOf(4)", () -> book.wearOf(4));
+    }
+
+    private static void allEarsFall() {
+        BookmarkManager book = Books.with("E1:1;E2:1;E3:1;E4:1;E5:1;E6:1;E7:1;E8:1;E9:1;E10:1;E11:1", "E12:1", "T13;B13");
+        CHECK.due(12, "earsAtRisk(12, true)", () -> book.earsAtRisk(12, true));
+        CHECK.due(12, "turnPages(12, true)", () -> book.turnPages(12, true));
+        CHECK.due(12, "fallenEars()", book::fallenEars);
+        CHECK.due(0, "earsAtRisk(12, false)", () -> book.earsAtRisk(12, false));
+        CHECK.due(0, "turnPages(12, false)", () -> book.turnPages(12, false));
+        CHECK.due(12, "fallenEars()", book::fallenEars);
     }
 
     private static void bookEnds() {
@@ -108,6 +131,14 @@ public final class ReaderTest {
         CHECK.due(1, "earsAtRisk(1, true)", () -> book.earsAtRisk(1, true));
         CHECK.due(0, "earsAtRisk(20, false)", () -> book.earsAtRisk(20, false));
         CHECK.due(0, "asking lets none fall", book::fallenEars);
+        BookmarkManager mixed = Books.with("E2:1;E4:1;E6:1;E8:1", "T7;B3;B4;E9:1");
+        CHECK.due("0e2*1w2 1e4*1w2 2e6*1w2 3e8*1w0 4e9*1w0 | 0 | reader 0 votes 0 0 fallen 0", "dog ears of wear 0 and 2",
+            () -> Books.state(mixed));
+        CHECK.due(3, "earsAtRisk(20, true)", () -> mixed.earsAtRisk(20, true));
+        Books.run(mixed, "T1;E15:1;T16;B1");
+        CHECK.due("3e8*1w1 4e9*1w1 5e15*1w1 | 0 | reader 16 votes 0 0 fallen 3", "dog ears of wear 1",
+            () -> Books.state(mixed));
+        CHECK.due(0, "earsAtRisk(20, false)", () -> mixed.earsAtRisk(20, false));
         BookmarkManager far = Books.with("E55:1;E50:1;E45:1", "T20;T20;T19;B19;T12");
         CHECK.due(52, "currentPage()", far::currentPage);
         CHECK.due(0, "earsAtRisk(1, true)", () -> far.earsAtRisk(1, true));

@@ -111,5 +111,8 @@ public final class TotalsTest {
             Books.run(book, input);
             CHECK.due(true, "isConsistent() after " + input, book::isConsistent);
         }
+        BookmarkManager full = Books.with("R0:1;R9:1;R18:1;R27:1;R36:1;E59:1;E58:1;E57:1;E56:1", "E1:1;E2:1;E3:1",
+            "C1;C2;C3;C20;C30;C56;C59");
+        CHECK.due(true, "isConsistent() with 12 marks and 8 chapters", full::isConsistent);
     }
 }
