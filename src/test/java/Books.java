@@ -24,6 +24,25 @@ final class Books {
         return book;
     }
 
+    /**
+     * A book after these inputs, each one a change of its own, with all that a refused call could spoil beside:
+     * a syntax error, a rejection, a snapshot ahead of the last change, an output, and the input "C3".
+     */
+    static BookmarkManager settled(String... inputs) {
+        BookmarkManager book = new BookmarkManager();
+        Check.answer(() -> run(book, "T1;"));
+        Check.answer(() -> book.turnPages(7, false));
+        for (int index = 0; index < inputs.length; index++) {
+            if (index == inputs.length - 1) {
+                book.saveSnapshot();
+            }
+            run(book, inputs[index]);
+        }
+        book.writeSeats();
+        type(book, "C3");
+        return book;
+    }
+
     /** The output, read character by character. */
     static String output(BookmarkManager book, int length) {
         StringBuilder text = new StringBuilder();
@@ -31,6 +50,21 @@ final class Books {
             text.append(book.outputAt(index));
         }
         return text.toString();
+    }
+
+    /** The output up to the first index without a character. */
+    static String wholeOutput(BookmarkManager book) {
+        StringBuilder text = new StringBuilder();
+        int index = 0;
+        for (Object part = outputPart(book, index); part instanceof Character; part = outputPart(book, index)) {
+            text.append(part);
+            index++;
+        }
+        return text.toString();
+    }
+
+    private static Object outputPart(BookmarkManager book, int index) {
+        return Check.answer(() -> book.outputAt(index));
     }
 
     static String chapterText(BookmarkManager book, int chapter) {
@@ -46,12 +80,14 @@ final class Books {
         return part(book::rejectionReason) + " " + part(book::rejectionDetail) + " " + part(book::causeReason);
     }
 
+    /** The offset of the latest syntax error, "-" if there was none. */
+    static String syntaxError(BookmarkManager book) {
+        return part(book::syntaxErrorOffset);
+    }
+
     private static String part(Check.Call call) {
-        try {
-            return String.valueOf(call.answer());
-        } catch (java.util.NoSuchElementException none) {
-            return "-";
-        }
+        Object answer = Check.answer(call);
+        return answer.equals("java.util.NoSuchElementException") ? "-" : answer.toString();
     }
 
     /** All that undo and the snapshot cover, as far as it can be asked for, in one text. */

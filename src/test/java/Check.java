@@ -13,15 +13,18 @@ final class Check {
         this.name = name;
     }
 
+    /** What a call answers: a value, or the name of the exception that it throws. */
+    static Object answer(Call made) {
+        try {
+            return made.answer();
+        } catch (RuntimeException thrown) {
+            return thrown.getClass().getName();
+        }
+    }
+
     /** Looks whether a call answers what is due. */
     void due(Object want, String call, Call made) {
-        Object got;
-        try {
-            got = made.answer();
-        } catch (RuntimeException thrown) {
-            got = thrown.getClass().getName();
-        }
-        compare(want, call, got);
+        compare(want, call, answer(made));
     }
 
     /** Looks whether a call throws an exception of exactly this class. */
@@ -37,10 +40,21 @@ final class Check {
         }
     }
 
+    /** Takes in the answers that another check has looked at. */
+    void add(Check other) {
+        asked += other.asked;
+        wrong += other.wrong;
+    }
+
+    /** Whether at least one answer was looked at and none was wrong. */
+    boolean holds() {
+        return asked > 0 && wrong == 0;
+    }
+
     /** Ends the test, with exit code 1 if an answer was wrong. */
     void end() {
         System.out.println(name + ": " + asked + " answers, " + wrong + " wrong");
-        if (wrong != 0 || asked == 0) {
+        if (!holds()) {
             System.exit(1);
         }
     }
