@@ -302,7 +302,8 @@ public final class BookmarkManager {
     public float heldShare(int chapter) throws IndexOutOfBoundsException {
         requireChapter(chapter);
         int all = book.endOf(chapter) - book.starts[chapter] + 1;
-        return (float) book.heldPageByPage(chapter) / (float) all;
+        // Every chapter has a page, but the language wants each divisor looked at before it divides.
+        return all > 0 ? (float) book.heldPageByPage(chapter) / (float) all : 0.0f;
     }
 
     public boolean isConsistent() {

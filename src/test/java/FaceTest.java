@@ -29,7 +29,9 @@ public final class FaceTest {
         methods(face);
         members();
         nestedClasses();
-        words(Files.readString(SOURCE));
+        String code = withoutComments(Files.readString(SOURCE));
+        words(code);
+        divisors(code);
         CHECK.end();
     }
 
@@ -114,9 +116,13 @@ public final class FaceTest {
         }
     }
 
+    /** The code alone; its texts are emptied too. */
+    private static String withoutComments(String source) {
+        return source.replaceAll("(?s)/\\*.*?\\*/", "").replaceAll("//[^\n]*", "").replaceAll("\"[^\"\n]*\"", "\"\"");
+    }
+
     /** Words and signs that the language leaves out, or that this program has no need of. */
-    private static void words(String source) {
-        String code = source.replaceAll("(?s)/\\*.*?\\*/", "").replaceAll("//[^\n]*", "").replaceAll("\"[^\"\n]*\"", "\"\"");
+    private static void words(String code) {
         String[] left = {"->", "::", "\\btry\\b", "\\bcatch\\b", "\\bfinally\\b", "\\bsynchronized\\b", "\\bassert\\b",
             "\\bvolatile\\b", "\\binstanceof\\b", "\\bstatic\\s*\\{", "\\bprotected\\b", "\\bpackage\\b", "\"\\s*\\+", "\\+\\s*\"",
             "\\bSystem\\.(?!arraycopy)", "\\bMath\\b", "\\bObject\\b", "\\bwhile\\b", "@", "\\bimport java\\.(?!util\\.NoSuchElementException;)"};
@@ -129,5 +135,19 @@ public final class FaceTest {
             method = outside ? 0 : method + 1;
             CHECK.compare(true, "a method is short at: " + line, method < 60);
         }
+    }
+
+    /** Rule 7: "an index is looked at before it is used, a divisor before it divides", in the method that divides. */
+    private static void divisors(String code) {
+        Matcher division = Pattern.compile("[/%]=?\\s*(?:\\(\\w+\\) )?([\\w.]+)").matcher(code);
+        int found = 0;
+        while (division.find()) {
+            // A blank line stands ahead of every method, and none stands in it.
+            String before = code.substring(code.lastIndexOf("\n\n", division.start()), division.start());
+            Pattern look = Pattern.compile("(?<![\\w.])" + Pattern.quote(division.group(1)) + " (==|!=|<|>|<=|>=) ");
+            CHECK.compare(true, division.group(1) + " is looked at before it divides", look.matcher(before).find());
+            found++;
+        }
+        CHECK.compare(2, "the number of divisions", found);
     }
 }
